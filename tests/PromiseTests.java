@@ -1,3 +1,4 @@
+import java.util.Arrays;
 import java.util.NoSuchElementException;
 import java.util.Objects;
 import java.util.concurrent.Callable;
@@ -267,8 +268,11 @@ public final class PromiseTests {
         is("payer", x.payerOf(2), 0);
         is("paid", x.paidOf(2), 900);
         is("received", x.receivedOf(2), 900);
+        x.withdraw(3, 2, 250);
+        is("outside of its currency", x.houseBalance(1, false), -750L);
+        is("the other outside as it was", x.houseBalance(0, false), -100L);
         is("repeated", x.withdraw(2, 0, 900), 2);
-        is("transactions", x.transactions(), 3);
+        is("transactions", x.transactions(), 4);
         refused("key with another amount", x, ARGUMENT, () -> x.withdraw(2, 0, 1));
         refused("key with another account", x, ARGUMENT, () -> x.withdraw(2, 1, 900));
         refused("key of another method", x, ARGUMENT, () -> x.deposit(2, 0, 900));
@@ -301,7 +305,7 @@ public final class PromiseTests {
         is("back", x.transfer(2, 1, 0, 600), 3);
         checkTransferBetweenCurrencies(x);
         is("repeated", x.transfer(1, 0, 1, 1000), 2);
-        is("transactions", x.transactions(), 6);
+        is("transactions", x.transactions(), 7);
         refused("key with another amount", x, ARGUMENT, () -> x.transfer(1, 0, 1, 999));
         refused("key with another payer", x, ARGUMENT, () -> x.transfer(1, 2, 1, 1000));
         refused("key with another payee", x, ARGUMENT, () -> x.transfer(1, 0, 2, 1000));
@@ -331,9 +335,12 @@ public final class PromiseTests {
         x.setRate(1, 1000);
         x.setRate(2, 100);
         is("ten for one", x.transfer(4, 2, 3, 1003), 5);
+        refused("not quite 1 received", x, UNSUPPORTED, () -> x.transfer(5, 3, 2, 9));
         is("ten times received", x.receivedOf(5), 10030);
         is("rounded exchange", x.houseBalance(1, true), 1000L);
         is("its balance", x.balance(3), 10030L);
+        is("just 1 received", x.transfer(5, 3, 2, 10), 6);
+        is("that is 1", x.receivedOf(6), 1);
     }
 
     private static void promise8() {
@@ -696,6 +703,48 @@ public final class PromiseTests {
         x.closeDay();
         is("only the key used again", x.keys(), 1);
         is("of another method", x.withdraw(1, 0, 5), 4);
+        checkKeysOfEachMethod();
+    }
+
+    /** The same seven keys are used on days 4 and 7, for calls with other amounts. */
+    private static void checkKeysOfEachMethod() {
+        LedgerStream x = usual();
+        closeDays(x, 4);
+        int[] first = callEachMethod(x, 10);
+        is("first answers", Arrays.toString(first), "[2, 3, 4, 0, 5, 6, 1]");
+        closeDays(x, 2);
+        is("repeated on the second day", Arrays.toString(callEachMethod(x, 10)),
+            Arrays.toString(first));
+        refused("not yet free", x, ARGUMENT, () -> x.deposit(1, 0, 11));
+        closeDays(x, 1);
+        int[] second = callEachMethod(x, 11);
+        is("second answers", Arrays.toString(second), "[8, 9, 10, 1, 11, 12, 2]");
+        is("repeated on the same day", Arrays.toString(callEachMethod(x, 11)),
+            Arrays.toString(second));
+        is("keys", x.keys(), 7);
+        is("answerOf", x.answerOf(7), 2);
+        closeDays(x, 2);
+        is("keys on the second day", x.keys(), 7);
+        closeDays(x, 1);
+        is("keys behind it", x.keys(), 0);
+    }
+
+    private static int[] callEachMethod(LedgerStream x, int amount) {
+        int[] answers = new int[7];
+        answers[0] = x.deposit(1, 0, amount);
+        answers[1] = x.withdraw(2, 0, amount);
+        answers[2] = x.transfer(3, 0, 1, amount);
+        answers[3] = x.hold(4, 0, 1, amount, 20);
+        answers[4] = x.capture(5, answers[3], amount);
+        answers[5] = x.reverse(6, answers[4]);
+        for (int i = x.batchSize(); x.day() == 4 && i < 1 || x.day() == 7 && i < 2; i++) {
+            x.addPayment(0, 1, amount);
+        }
+        answers[6] = x.settle(7);
+        while (x.batchSize() > 0) {
+            x.removePayment(0);
+        }
+        return answers;
     }
 
     private static void promise16() {
@@ -754,6 +803,18 @@ public final class PromiseTests {
         isCut(x, 2);
         x.removePayment(2);
         isCut(x, 3);
+        LedgerStream first = usual();
+        first.setRate(0, 100);
+        first.addPayment(0, 2, 9);
+        first.addPayment(0, 1, 9);
+        isCut(first, 0);
+        first.setRate(0, 1000);
+        isCut(first, 2);
+        first.setLimit(0, 0);
+        first.withdraw(1, 0, 983);
+        isCut(first, 1);
+        first.withdraw(2, 0, 9);
+        isCut(first, 0);
     }
 
     private static void checkCutByRoom() {
@@ -1177,6 +1238,9 @@ public final class PromiseTests {
         is("two in seven", x.reversedShare(), 2.0f / 7.0f);
         LedgerStream empty = new LedgerStream();
         refused("no transactions", empty, ARITHMETIC, empty::reversedShare);
+        empty.openAccount(0, 5);
+        empty.deposit(1, 0, 5);
+        is("none of one", empty.reversedShare(), 0.0f);
     }
 
     private static void promise41() {
@@ -1193,5 +1257,8 @@ public final class PromiseTests {
         is("a great sum", x.meanPaid(), (2012.0 + 97.0 * 999999.0) / 101.0);
         LedgerStream empty = new LedgerStream();
         refused("no transactions", empty, ARITHMETIC, empty::meanPaid);
+        empty.openAccount(0, 5);
+        empty.deposit(1, 0, 5);
+        is("one of 5", empty.meanPaid(), 5.0);
     }
 }
