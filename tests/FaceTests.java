@@ -29,6 +29,7 @@ public final class FaceTests {
 
     public static void main(String[] args) throws Exception {
         checkFace();
+        checkHeadings();
         checkClasses();
         checkSource();
         System.out.println(wrong + " wrong");
@@ -80,6 +81,40 @@ public final class FaceTests {
             .collect(Collectors.joining(", "));
         return Modifier.toString(method.getModifiers()) + " " + method.getReturnType().getSimpleName() + " "
             + method.getName() + "(" + parameters + ")" + (thrown.isEmpty() ? "" : " throws " + thrown);
+    }
+
+    /** Ahead of the calls that the document names together, the source has the heading that it says. */
+    private static void checkHeadings() throws Exception {
+        List<String> due = new ArrayList<>();
+        for (String line : Files.readAllLines(DOCUMENT)) {
+            Matcher said = Pattern.compile("Ahead of the calls (.*) the interface says: (---- .*)\\.").matcher(line);
+            if (said.matches()) {
+                due.add(said.group(2) + ": " + said.group(1).replace("`", ""));
+            }
+        }
+        List<String> got = headings();
+        must(due.size() == 6, "the document has 6 headings, not " + due.size());
+        must(got.equals(due), "the headings are the document's: " + got + " and " + due);
+    }
+
+    /** Each heading of the source with the public methods between it and the next one. */
+    private static List<String> headings() throws Exception {
+        List<String> found = new ArrayList<>();
+        String heading = "";
+        List<String> calls = new ArrayList<>();
+        for (String line : (Files.readString(SOURCE) + "\n    // ----").split("\n")) {
+            Matcher call = Pattern.compile("    public \\w+ (\\w+)\\(.*").matcher(line);
+            if (call.matches()) {
+                calls.add(call.group(1));
+            } else if (line.startsWith("    // ----")) {
+                if (!calls.isEmpty()) {
+                    found.add(heading + ": " + String.join(", ", calls));
+                }
+                heading = line.substring(7);
+                calls.clear();
+            }
+        }
+        return found;
     }
 
     private static void checkClasses() {

@@ -50,7 +50,7 @@ final class Run {
     }
 
     static void end(List<String> leftOut) {
-        leftOut.forEach(sentence -> tell("no test names: " + sentence));
+        leftOut.forEach(sentence -> tell("left out: " + sentence));
         System.out.println(checks + " checks, " + wrong + " wrong");
         if (wrong != 0 || checks == 0) {
             System.exit(1);

@@ -321,7 +321,7 @@ public final class LedgerStream {
         return books.balances.at(account) * books.rates.at(books.currencies.intAt(account));
     }
 
-    // ---- questions about transactions, holds, keys and sums
+    // ---- questions about transactions, holds and keys
 
     public int transactions() {
         return journal.size;
@@ -388,6 +388,8 @@ public final class LedgerStream {
         }
         return memory.answerTo(key, today);
     }
+
+    // ---- accounts of the whole
 
     public boolean isBalanced() {
         for (int currency = 0; currency < CURRENCIES; currency++) {
